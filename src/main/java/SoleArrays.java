@@ -456,19 +456,19 @@ public final class SoleArrays {
         }
 
         private void take(char due) {
-            if (at >= length || next() != due) {
+            if (next() != due) {
                 fault.ill(at);
             }
             at++;
         }
 
         private int takeOneOf(char first, char last) {
-            if (!nextIsOneOf(first, last)) {
+            char c = next();
+            if (c < first || c > last) {
                 fault.ill(at);
             }
-            int which = next() - first;
             at++;
-            return which;
+            return c - first;
         }
 
         private void takeCommaBefore(int position) {

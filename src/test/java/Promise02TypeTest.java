@@ -24,7 +24,10 @@ public final class Promise02TypeTest {
         Trial.due("type of character 150", t.x.type('?') ? 1 : 0, 0);
         Trial.due("type of a blank as character 150", t.x.type(' ') ? 1 : 0, 0);
         Trial.dueThrown("define", t.thrownByDefine(), Trial.ILL);
-        Trial.due("type after define", t.x.type('?') ? 1 : 0, 1);
+        for (int i = 0; i < 150; i++) {
+            Trial.due("type after define", t.x.type('?') ? 1 : 0, 1);
+        }
+        Trial.due("type of character 150 after define", t.x.type('?') ? 1 : 0, 0);
     }
 
     private static void blanks() {

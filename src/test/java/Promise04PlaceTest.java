@@ -6,6 +6,7 @@ public final class Promise04PlaceTest {
         illExpressions();
         illAtAnyEnd();
         illDepths();
+        everyPartIsOneDeeper();
         wrongHeads();
         wrongParts();
         wrongVariables();
@@ -41,12 +42,14 @@ public final class Promise04PlaceTest {
                 .ill("A()0=1a", 6).ill("A()0=1)", 6).ill("A()0=a(", 6).ill("A()0=a]", 6).ill("A()0=()", 6)
                 .ill("A()0=(1)", 7).ill("A()0=(1>2)", 7).ill("A()0=(1+2+3)", 9).ill("A()0=?1|2", 7)
                 .ill("A()0=?1(2,3)", 9).ill("A()0=?1(2|3|4)", 11).ill("A()0=&1=2;3", 6).ill("A()0=&A=2;3", 6)
-                .ill("A()0=&a;3", 7).ill("A()0=&a=2,3", 9).ill("A()1=@)", 6).ill("A()2=%1;2", 7)
+                .ill("A()0=&a;3", 7).ill("A()0=&a=2,3", 9);
+        new Trial().ill("A()1=@)", 6).ill("A()2=%1;2", 7)
                 .ill("A()0=a[]", 7).ill("A()0=a[1,2,3]", 10).ill("A()0=a[1}", 8).ill("A()0=a{1}", 8)
                 .ill("A()0=a{1,2,3,4}", 12).ill("A()0=a{1,2]", 10).ill("A()0=#1", 6).ill("A()0=^^a", 6)
                 .ill("A()0=$A()", 6).ill("A()0=#a[1]", 7).ill("A()0=~1;1", 6).ill("A()0=~a1", 7).ill("A()0=~a,1", 7)
                 .ill("A()0=A", 6).ill("A()0=Aa", 6).ill("A()0=A(,)", 7).ill("A()0=A(1,)", 9).ill("A()0=A(1;2)", 8)
-                .ill("A()0=A(1,2,3,4,5)", 14).ill("A()0=A()()", 8).ill("A()0=>", 5);
+                .ill("A()0=A(1,2,3,4,5)", 14).ill("A()0=A()()", 8).ill("A()0=>", 5).ill("A(a0)0=(a1)", 9)
+                .ill("A(a0)0=(1a)", 9).ill("A(a0)0=(1(1+1))", 9);
     }
 
     private static void illAtAnyEnd() {
@@ -71,6 +74,23 @@ public final class Promise04PlaceTest {
                 .ill("C(n0)0=C(C(C(C(C(C(C(C(1))))))))", 23);
         new Trial().ill("A(a1)1=@@@@@@@@1", 15).ill("A(a1)1=@@@@@@@a[0]", 16).ill("A(a1)1=@@@@@@@~a;1", 17)
                 .wrong("A(a1)1=@@@@@@@#a", 13);
+    }
+
+    /** Each form that has parts, with * where its parts go. */
+    private static void everyPartIsOneDeeper() {
+        String[] forms = {"(*+*)", "?*(*|*)", "&a=*;*", "@*", "%*,*", "a[*]", "a[*,*]", "a{*,*}", "a{*,*,*}", "~a;*",
+            "A(*)", "A(*,*,*,*)"};
+        for (String form : forms) {
+            int first = form.indexOf('*');
+            new Trial().ill("A()0=" + "(".repeat(7) + form.replace('*', '1'), 5 + 7 + first);
+            int whole = form.length();
+            // At depth 7 its parts are the last that can stand; the text ends too early, and is ill there alone.
+            new Trial().ill("A()0=" + "(".repeat(6) + form.replace('*', '1'), 5 + 6 + whole);
+            for (int part = first; part >= 0; part = form.indexOf('*', part + 1)) {
+                String deeper = form.substring(0, part) + "(1+1)" + form.substring(part + 1);
+                new Trial().ill("A()0=" + "(".repeat(6) + deeper.replace('*', '1'), 5 + 6 + part + 1);
+            }
+        }
     }
 
     private static void wrongHeads() {
@@ -121,7 +141,7 @@ public final class Promise04PlaceTest {
 
     private static void wrongCalls() {
         Trial t = new Trial().good("A(n0,a1,t2)1=~t;a{n,0}", 1);
-        t.wrong("B()0=C(n)", 5).wrong("B()1=A()", 5).wrong("B()1=A(n,n)", 5).wrong("B()1=A(n,n,n,n)", 5)
+        t.wrong("B()0=&a=C();n", 8).wrong("B()0=C(n)", 5).wrong("B()1=A()", 5).wrong("B()1=A(n,n)", 5).wrong("B()1=A(n,n,n,n)", 5)
                 .wrong("B()1=A(@1,n,n)", 7).wrong("B()1=A(1,%1,1,n)", 9).wrong("B()1=A(1,@1,@n)", 13)
                 .wrong("B()1=A(1,@1,@1)", 12).wrong("B()0=A(1,@1,%1,1)", 5).wrong("B(a1)1=A(1,a,?#a(%1,1|%2,2))", 15)
                 .wrong("B(a1)1=A(#a,$a,%1,1)", 2).wrong("B(n0)0=B()", 7).wrong("B(n0)0=B(@n)", 9).wrong("B(n0)1=(1+B(n))", 10);

@@ -27,8 +27,8 @@ public final class Promise11CellTest {
 
     private static void table(Trial t) {
         long[][] due = {{1, 0, 2}, {3, 0, Long.MIN_VALUE}};
-        for (int i = -2; i < 45; i++) {
-            for (int j = -4; j < 45; j++) {
+        for (int i = -2; i < 5; i++) {
+            for (int j = -4; j < 8; j++) {
                 cell(t, i, j, i >= 0 && i < 2 && j >= 0 && j < 3 ? due[i][j] : 0);
             }
         }
