@@ -9,22 +9,38 @@ final class Trial {
     static final String DIVIDED = "ArithmeticException";
     static final String TOO_MUCH = "UnsupportedOperationException";
 
+    /** Stands in a text before the place that is meant, so that places need not be counted by hand. */
+    static final char MARK = '!';
+
     private static int wrong = 0;
+    private static String sentence = "";
 
     final SoleArrays x = new SoleArrays();
 
+    /** The words of the document that the calls from here on try. */
+    static void sentence(String words) {
+        sentence = words;
+    }
+
     static void due(String what, long got, long want) {
         if (got != want) {
-            wrong++;
-            System.out.println(what + " answered " + got + ", due is " + want);
+            report(what + " answered " + got + ", due is " + want);
         }
+    }
+
+    static void due(String what, boolean got, boolean want) {
+        due(what, got ? 1 : 0, want ? 1 : 0);
     }
 
     static void dueThrown(String what, String got, String want) {
         if (!got.equals(want)) {
-            wrong++;
-            System.out.println(what + " threw " + got + ", due is " + want);
+            report(what + " threw " + got + ", due is " + want);
         }
+    }
+
+    private static void report(String fault) {
+        wrong++;
+        System.out.println(sentence.isEmpty() ? fault : "\"" + sentence + "\": " + fault);
     }
 
     /** Ends the test, with exit code 1 if an answer was not as due. */
@@ -37,7 +53,7 @@ final class Trial {
 
     Trial type(String text) {
         for (int i = 0; i < text.length(); i++) {
-            due("type of '" + text.charAt(i) + "' in " + text, x.type(text.charAt(i)) ? 1 : 0, 1);
+            due("type of '" + text.charAt(i) + "' in " + text, x.type(text.charAt(i)), true);
         }
         return this;
     }
@@ -62,8 +78,54 @@ final class Trial {
         return bad(text, ILL, place);
     }
 
+    /** A text that is ill at the place that is marked in it. */
+    Trial illAt(String marked) {
+        return ill(unmarked(marked), markedPlace(marked));
+    }
+
+    /** Texts that are ill at the places that are marked in them, each on an object of its own. */
+    static void allIll(String... marked) {
+        for (String text : marked) {
+            new Trial().illAt(text);
+        }
+    }
+
     Trial wrong(String text, int place) {
         return bad(text, WRONG, place);
+    }
+
+    /** A text that is wrong at the place that is marked in it. */
+    Trial wrongAt(String marked) {
+        return wrong(unmarked(marked), markedPlace(marked));
+    }
+
+    /** Texts that are wrong at the places that are marked in them, each on an object of its own. */
+    static void allWrong(String... marked) {
+        for (String text : marked) {
+            new Trial().wrongAt(text);
+        }
+    }
+
+    /** Texts that are neither ill nor wrong, each on an object of its own. */
+    static void allGood(String... texts) {
+        for (String text : texts) {
+            new Trial().good(text, 1);
+        }
+    }
+
+    /** A text in which every character can stand, be it wrong or not. */
+    Trial notIll(String text) {
+        type(text);
+        due("define of " + text + " is ill, which", thrownByDefine().equals(ILL), false);
+        return this;
+    }
+
+    private static String unmarked(String marked) {
+        return marked.replace("" + MARK, "");
+    }
+
+    private static int markedPlace(String marked) {
+        return marked.substring(0, marked.indexOf(MARK)).replace(" ", "").length();
     }
 
     private Trial bad(String text, String due, int place) {
@@ -84,7 +146,7 @@ final class Trial {
 
     Trial arguments(long... values) {
         for (int k = 0; k < values.length; k++) {
-            due("argument " + k, x.argument(k, values[k]) ? 1 : 0, 1);
+            due("argument " + k, x.argument(k, values[k]), true);
         }
         return this;
     }
