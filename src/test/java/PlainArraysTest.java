@@ -98,7 +98,8 @@ public final class PlainArraysTest {
         } else {
             Trial.due("value of " + what, x.value(), result == null ? 0 : (Long) result);
         }
-        Trial.due("kind of " + what, x.kind(), result == null ? -1 : result instanceof Long ? 0 : result instanceof long[] ? 1 : 2);
+        int kind = result == null ? SoleArrays.NONE : result instanceof Long ? 0 : result instanceof long[] ? 1 : 2;
+        Trial.due("kind of " + what, x.kind(), kind);
     }
 
     /** A table in the model, which knows its columns also if it has no rows. */

@@ -77,7 +77,8 @@ public final class PlainPlacesTest {
             case 5:
                 return text.replaceFirst("~[a-t];", "");
             default:
-                return before + sign(Character.isDigit(c) ? "0129" : Character.isLowerCase(c) ? "abcmnst" : "ABCD@%#^$") + after;
+                String alike = Character.isDigit(c) ? "0129" : Character.isLowerCase(c) ? "abcmnst" : "ABCD@%#^$";
+                return before + sign(alike) + after;
         }
     }
 
@@ -89,20 +90,21 @@ public final class PlainPlacesTest {
     private void grownTexts() {
         newObject();
         for (int i = 0; i < 4; i++) {
-            StringBuilder text = new StringBuilder((char) ('A' + i) + (random.nextBoolean() ? "(a1,b2,n0)" : "(a1)") + random.nextInt(3) + "=");
-            for (int k = 0; k < 400 && text.length() < 60 && illPlace(text.toString()) != SoleArrays.NONE; k++) {
-                text.append(sign(SIGNS));
-                if (illPlace(text.toString()) < text.length() && illPlace(text.toString()) != SoleArrays.NONE) {
-                    text.setLength(text.length() - 1);
-                }
+            String head = random.nextBoolean() ? "(a1,b2,n0)" : "(a1)";
+            String text = (char) ('A' + i) + head + random.nextInt(3) + "=";
+            for (int k = 0; k < 400 && text.length() < 60 && illPlace(text) == text.length(); k++) {
+                String longer = text + sign(SIGNS);
+                int place = illPlace(longer);
+                text = place == SoleArrays.NONE || place == longer.length() ? longer : text;
             }
-            tryOut(text.toString());
+            tryOut(text);
         }
     }
 
     private void everyCharacterAtEveryPlace() {
-        String[] samples = {"A(a0,b1,c2,d0)0=~b;~c;9999", "B(a1,t2)2=&n=(#a+^t);~a;t{0,n,1}", "C(a0)1=?((a-1)<(a*2))(@a|@(a/2))",
-            "D(a2)0=&n=a[0,0];&b=$a;~a;~b;n", "E(a0,b1)1=E(a,b{12,b[0]})", "F(n0)0=((((((n+1)+F(1))+1)+1)+1)+%1,1)"};
+        String[] samples = {"A(a0,b1,c2,d0)0=~b;~c;9999", "B(a1,t2)2=&n=(#a+^t);~a;t{0,n,1}",
+            "C(a0)1=?((a-1)<(a*2))(@a|@(a/2))", "D(a2)0=&n=a[0,0];&b=$a;~a;~b;n",
+            "E(a0,b1)1=E(a,b{12,b[0]})", "F(n0)0=((((((n+1)+F(1))+1)+1)+1)+%1,1)"};
         for (String sample : samples) {
             for (int at = 0; at < sample.length(); at++) {
                 for (char c = '!'; c <= '~'; c++) {
@@ -189,7 +191,8 @@ public final class PlainPlacesTest {
     }
 
     private static boolean isPassedOver(Due due, char c) {
-        return due.kind == MORE_DIGITS && (due.more == 0 || c < '0' || c > '9') || due.kind == BEHIND_VARIABLE && c != '[' && c != '{';
+        boolean noDigit = due.more == 0 || c < '0' || c > '9';
+        return due.kind == MORE_DIGITS && noDigit || due.kind == BEHIND_VARIABLE && c != '[' && c != '{';
     }
 
     /** Whether c can stand where this is due; what is due behind it is put on the stack. */
@@ -222,7 +225,11 @@ public final class PlainPlacesTest {
                 stack.push(new Due(EXPRESSION, 0, due.depth));
                 return endsList(stack, c, 2) || c == ',' && due.more > 0;
             case BEHIND_VARIABLE:
-                push(stack, due.depth + 1, c == '[' ? new char[] {EXPRESSION, ']'} : new char[] {EXPRESSION, ',', EXPRESSION, '}'});
+                if (c == '[') {
+                    push(stack, due.depth + 1, EXPRESSION, ']');
+                } else {
+                    push(stack, due.depth + 1, EXPRESSION, ',', EXPRESSION, '}');
+                }
                 return true;
             case EXPRESSION:
                 return begins(stack, due.depth, c);

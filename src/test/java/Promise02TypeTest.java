@@ -24,7 +24,7 @@ public final class Promise02TypeTest {
     }
 
     private static void refusedCodesLeaveNoTrace() {
-        Trial.sentence("false if its code isn't 32 .. 126: nothing is put then");
+        Trial.sentence("false if its code isn't 32 .. 126", "nothing is put then");
         Trial t = new Trial().type("A()0=1");
         for (int i = 0; i < 75; i++) {
             Trial.due("type of code 31", t.x.type((char) 31), false);
@@ -49,7 +49,7 @@ public final class Promise02TypeTest {
     }
 
     private static void blanksAreAmongThem() {
-        Trial.sentence("or 150 are there: at most 150 characters with codes 32 .. 126");
+        Trial.sentence("or 150 are there", "at most 150 characters with codes 32 .. 126");
         Trial t = new Trial().type(" ".repeat(144)).type("A()0=7");
         Trial.due("type of a digit where 150 are there", t.x.type('7'), false);
         t.good("", 1).givesNumber('A', 7);
@@ -60,7 +60,7 @@ public final class Promise02TypeTest {
     }
 
     private static void roomAfterDefine() {
-        Trial.sentence("or 150 are there: none after a define");
+        Trial.sentence("or 150 are there", "none after a define");
         String[] texts = {"A()0=1", "A()0=", "A()0=n"};
         for (String text : texts) {
             Trial t = new Trial().type(text + " ".repeat(150 - text.length()));

@@ -52,7 +52,8 @@ public final class Promise03DefineTest {
 
     private static void wrong() {
         Trial.sentence("IllegalStateException: it is WRONG");
-        new Trial().good("A()0=1", 1).wrongAt("!A()0=1").wrongAt("B(a0,!a0)0=1").wrongAt("B()0=!n").wrongAt("B()0=!@1").wrongAt("B(!a1)0=1");
+        new Trial().good("A()0=1", 1).wrongAt("!A()0=1");
+        Trial.allWrong("B(a0,!a0)0=1", "B()0=!n", "B()0=!@1", "B(!a1)0=1");
     }
 
     private static void illGoesBeforeWrong() {
@@ -62,7 +63,7 @@ public final class Promise03DefineTest {
     }
 
     private static void badTextsDefineNothing() {
-        Trial.sentence("Defines the text: not one that is ILL or WRONG");
+        Trial.sentence("Defines the text", "not one that is ILL or WRONG");
         Trial t = new Trial().illAt("A()0=!").wrongAt("A()0=!n").wrongAt("A()1=!1").fails('A', Trial.NOT_RUN);
         Trial.due("clear", t.x.clear(), 0);
         t.wrongAt("B()0=!A()").good("A()0=3", 1).wrongAt("!A()0=4").givesNumber('A', 3);

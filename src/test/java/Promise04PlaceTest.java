@@ -11,7 +11,8 @@ public final class Promise04PlaceTest {
 
     private static void ofTheLatestDefine() {
         Trial.sentence("The place where the text of the latest define was ILL or WRONG");
-        new Trial().illAt("A()0=1!)").illAt("A!").wrongAt("A()0=(1+!n)").wrongAt("A()0=!n").illAt("!").good("A()0=1", 1).wrongAt("!A()0=1");
+        new Trial().illAt("A()0=1!)").illAt("A!").wrongAt("A()0=(1+!n)").wrongAt("A()0=!n").illAt("!")
+                .good("A()0=1", 1).wrongAt("!A()0=1");
     }
 
     private static void neither() {
@@ -32,7 +33,7 @@ public final class Promise04PlaceTest {
     }
 
     private static void firstAndLastPlaces() {
-        Trial.sentence("The place: from 0 to the text's length");
+        Trial.sentence("The place", "from 0 to the text's length");
         new Trial().ill("", 0).ill("!", 0).ill("A", 1).ill("A()0=1!", 6).illAt("A()0=(1+2!");
         new Trial().good("A()0=1", 1).wrongAt("!A()0=1").wrongAt("B()0=(1+!n)").wrongAt("B(a1)0=#!b");
     }

@@ -33,8 +33,7 @@ public final class Promise05ClearTest {
 
     private static void theResultStays() {
         Trial.sentence("(The result stays.)");
-        Trial t = new Trial().good("A(n0)0=n", 1).good("B(n0)1=&a=@2;a{1,n}", 2).good("C(n0)2=&a=%1,2;a{0,1,n}", 3).arguments(9);
-        t.givesNumber('A', 9);
+        Trial t = new Trial().good("A(n0)0=n", 1).arguments(9).givesNumber('A', 9);
         t.x.clear();
         Trial.due("kind", t.x.kind(), 0);
         Trial.due("value", t.x.value(), 9);
@@ -54,8 +53,9 @@ public final class Promise05ClearTest {
     }
 
     private static void theRestStays() {
-        Trial.sentence("All functions go: nothing else does");
-        Trial t = new Trial().good("A(n0)1=&a=@n;a{0,n}", 1).arguments(2).givesRow('A', 2, 0).wrongAt("!A()0=1").type("A(n0)");
+        Trial.sentence("All functions go", "nothing else does");
+        Trial t = new Trial().good("A(n0)1=&a=@n;a{0,n}", 1).arguments(2).givesRow('A', 2, 0);
+        t.wrongAt("!A()0=1").type("A(n0)");
         t.x.clear();
         Trial.due("place", t.x.place(), 0);
         t.counted(6, 1, 1, 1).good("0=n", 1).givesNumber('A', 2);

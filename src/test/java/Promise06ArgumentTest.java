@@ -37,7 +37,8 @@ public final class Promise06ArgumentTest {
         Trial.sentence("of what is run");
         Trial t = new Trial().arguments(5, 6).good("A(m0,n0)0=(m-n)", 1).givesNumber('A', -1).givesNumber('A', -1);
         t.x.clear();
-        t.good("A(m0,n0)0=(m*n)", 1).givesNumber('A', 30).arguments(7).givesNumber('A', 42).arguments(8).arguments(9).givesNumber('A', 54);
+        t.good("A(m0,n0)0=(m*n)", 1).givesNumber('A', 30).arguments(7).givesNumber('A', 42)
+                .arguments(8).arguments(9).givesNumber('A', 54);
         // A function changes none, and a result stays when they are changed.
         new Trial().good("A(n0)0=&m=(n+1);m", 1).arguments(4).givesNumber('A', 5).givesNumber('A', 5);
         Trial stays = new Trial().good("A(n0)0=n", 1).arguments(4).givesNumber('A', 4).arguments(5);
@@ -45,7 +46,7 @@ public final class Promise06ArgumentTest {
     }
 
     private static void anyLong() {
-        Trial.sentence("Argument k: a number is a long");
+        Trial.sentence("Argument k", "a number is a long");
         long[] numbers = {Long.MIN_VALUE, Long.MIN_VALUE + 1, -1, 0, 1, 1L << 32, Long.MAX_VALUE};
         for (long n : numbers) {
             new Trial().good("A(n0)0=n", 1).arguments(n).givesNumber('A', n);

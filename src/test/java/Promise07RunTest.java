@@ -21,12 +21,14 @@ public final class Promise07RunTest {
 
     private static void theResult() {
         Trial.sentence("the RESULT is what it gives; its type");
-        Trial t = new Trial().good("A(n0)0=(n+1)", 1).good("B(n0)1=&a=@2;a{0,n}", 2).good("C(n0)2=&a=%2,1;a{1,0,n}", 3).arguments(6);
-        t.givesNumber('A', 7).givesRow('B', 6, 0).givesTable('C', 2, 1, 0, 6).givesRow('B', 6, 0).givesNumber('A', 7);
-        new Trial().good("A(n0)1=&r=@n;&q=r{0,(n*n)};q{(n-1),7}", 1).arguments(3).givesRow('A', 9, 0, 7).arguments(1).givesRow('A', 7)
-                .arguments(0).fails('A', Trial.OUTSIDE).arguments(-2).fails('A', Trial.BELOW_0).arguments(41).fails('A', Trial.TOO_MUCH)
-                .arguments(40).gives('A', 1);
-        new Trial().good("A(m0,n0)0=((m*10)+n)", 1).good("B(a0,b0)0=A(A(1,2),A(b,A(a,a)))", 2).arguments(3, 4).givesNumber('B', 193);
+        Trial t = new Trial().good("A(n0)0=(n+1)", 1).good("B(n0)1=&a=@2;a{0,n}", 2).good("C(n0)2=&a=%2,1;a{1,0,n}", 3);
+        t.arguments(6).givesNumber('A', 7).givesRow('B', 6, 0).givesTable('C', 2, 1, 0, 6);
+        t.givesRow('B', 6, 0).givesNumber('A', 7);
+        new Trial().good("A(n0)1=&r=@n;&q=r{0,(n*n)};q{(n-1),7}", 1).arguments(3).givesRow('A', 9, 0, 7)
+                .arguments(1).givesRow('A', 7).arguments(0).fails('A', Trial.OUTSIDE).arguments(-2).fails('A', Trial.BELOW_0)
+                .arguments(41).fails('A', Trial.TOO_MUCH).arguments(40).gives('A', 1);
+        new Trial().good("A(m0,n0)0=((m*10)+n)", 1).good("B(a0,b0)0=A(A(1,2),A(b,A(a,a)))", 2).arguments(3, 4)
+                .givesNumber('B', 193);
     }
 
     private static void notDefined() {
@@ -39,7 +41,8 @@ public final class Promise07RunTest {
         t.givesNumber('B', 5).givesNumber('G', 6);
         t.x.clear();
         t.fails('B', Trial.NOT_RUN).fails('G', Trial.NOT_RUN);
-        new Trial().good("A()0=1", 1).good("H()0=8", 2).fails('@', Trial.NOT_RUN).fails('I', Trial.NOT_RUN).givesNumber('A', 1).givesNumber('H', 8);
+        new Trial().good("A()0=1", 1).good("H()0=8", 2).fails('@', Trial.NOT_RUN).fails('I', Trial.NOT_RUN)
+                .givesNumber('A', 1).givesNumber('H', 8);
     }
 
     private static void noNumberParameter() {
@@ -53,7 +56,8 @@ public final class Promise07RunTest {
 
     private static void theResultStays() {
         Trial.sentence("(the result stays)");
-        Trial t = new Trial().good("A()0=5", 1).good("B()1=&a=@2;a{1,6}", 2).good("C()2=&a=%1,2;a{0,1,7}", 3).good("D(a1)0=~a;1", 4);
+        Trial t = new Trial().good("A()0=5", 1).good("B()1=&a=@2;a{1,6}", 2).good("C()2=&a=%1,2;a{0,1,7}", 3)
+                .good("D(a1)0=~a;1", 4);
         char[] none = {'D', 'E', 'I'};
         for (char c : none) {
             t.fails(c, Trial.NOT_RUN).noResult();
@@ -93,7 +97,7 @@ public final class Promise07RunTest {
     }
 
     private static void aFailedRunLeavesNothingBehind() {
-        Trial.sentence("Runs a function: also after one that threw");
+        Trial.sentence("Runs a function", "also after one that threw");
         Trial t = new Trial().good("A(n0)1=&a=@2;&b=$a;&c=$a;~b;~c;a{n,1}", 1);
         for (int i = 0; i < 10; i++) {
             t.arguments(2).fails('A', Trial.OUTSIDE).noResult().counted(12, 3, 3, 0);

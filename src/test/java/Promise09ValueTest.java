@@ -22,7 +22,8 @@ public final class Promise09ValueTest {
         for (long n : numbers) {
             values().arguments(n).givesNumber('A', 3 * n);
         }
-        value(values().arguments(Long.MAX_VALUE).givesNumber('A', Long.MAX_VALUE - 2).fails('H', Trial.NOT_RUN), Long.MAX_VALUE - 2);
+        long most = Long.MAX_VALUE;
+        value(values().arguments(most).givesNumber('A', most - 2).fails('H', Trial.NOT_RUN), most - 2);
         value(values().arguments(2).gives('B', 1).givesNumber('A', 6), 6);
     }
 

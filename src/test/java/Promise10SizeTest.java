@@ -18,7 +18,7 @@ public final class Promise10SizeTest {
     }
 
     private static void ofARow() {
-        Trial.sentence("What 0: how many numbers a row has that is the result");
+        Trial.sentence("What 0: how many numbers a row, or rows a table, has that is the result", "a row");
         int[] lengths = {0, 1, 2, 39, 40};
         for (int length : lengths) {
             size(sizes(length, 6).gives('B', 1), length, 0);
@@ -36,7 +36,7 @@ public final class Promise10SizeTest {
     }
 
     private static void otherwise() {
-        Trial.sentence("0 otherwise: no row or table is the result");
+        Trial.sentence("0 otherwise", "no row or table is the result");
         size(new Trial(), 0, 0);
         size(sizes(4, 6), 0, 0);
         size(sizes(4, 6).gives('C', 2).gives('A', 0), 0, 0);
@@ -44,7 +44,7 @@ public final class Promise10SizeTest {
     }
 
     private static void otherWhats() {
-        Trial.sentence("0 otherwise: what is neither 0 nor 1");
+        Trial.sentence("0 otherwise", "what is neither 0 nor 1");
         int[] whats = {-1, 2, 3, Integer.MIN_VALUE, Integer.MAX_VALUE};
         for (int what : whats) {
             Trial.due("size(" + what + ") of none", new SoleArrays().size(what), 0);

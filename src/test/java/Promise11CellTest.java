@@ -54,7 +54,7 @@ public final class Promise11CellTest {
     }
 
     private static void outsideARow() {
-        Trial.sentence("0 if there is none: i of a row");
+        Trial.sentence("0 if there is none", "i of a row");
         Trial t = cells().gives('B', 1);
         cell(t, -1, 0, 0);
         cell(t, 3, 0, 0);
@@ -65,7 +65,7 @@ public final class Promise11CellTest {
     }
 
     private static void outsideATable() {
-        Trial.sentence("0 if there is none: i or j of a table");
+        Trial.sentence("0 if there is none", "i or j of a table");
         Trial t = cells().gives('C', 2);
         for (int i = -2; i < 5; i++) {
             for (int j = -4; j < 8; j++) {
@@ -82,7 +82,7 @@ public final class Promise11CellTest {
     }
 
     private static void ofTheEmpty() {
-        Trial.sentence("0 if there is none: in what is empty");
+        Trial.sentence("0 if there is none", "in what is empty");
         // The room of what was given up held other numbers than 0.
         Trial t = new Trial().good("A()1=&a=@1;&b=a{0,5};~b;@0", 1).good("B()2=&a=@1;&b=a{0,5};~b;%0,3", 2)
                 .good("C()2=&a=@1;&b=a{0,5};~b;%3,0", 3);
@@ -92,7 +92,7 @@ public final class Promise11CellTest {
     }
 
     private static void noRowOrTable() {
-        Trial.sentence("0 if there is none: no row or table is the result");
+        Trial.sentence("0 if there is none", "no row or table is the result");
         cell(new Trial(), 0, 0, 0);
         cell(cells(), 0, 0, 0);
         cell(cells().gives('A', 0), 0, 0, 0);

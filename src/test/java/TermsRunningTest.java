@@ -61,9 +61,10 @@ public final class TermsRunningTest {
     private static void partsFromLeftToRight() {
         Trial.sentence("Expressions are worked out in the same order, parts from left to right");
         // With m = 0 and n = 1, # divides by 0 and $ lies outside a.
-        String[] forms = {"(#+$)", "(#-$)", "(#*$)", "(#/$)", "(#<$)", "(#=$)", "?#($|1)", "&c=#;$", "&c=%#,$;~c;1", "&c=%1,1;&d=c[#,$];~c;d",
-            "&c=%1,1;&d=c{#,$,0};~d;1", "&c=%1,1;&d=c{#,0,$};~d;1", "&c=%1,1;&d=c{0,#,$};~d;1", "&c=@1;&d=c{#,$};~d;1",
-            "B(#,$,1,1)", "B(#,1,1,$)", "B(1,#,$,1)", "B(1,1,#,$)", "B(#,B(1,1,1,$),1,1)"};
+        String[] forms = {"(#+$)", "(#-$)", "(#*$)", "(#/$)", "(#<$)", "(#=$)", "?#($|1)", "&c=#;$", "&c=%#,$;~c;1",
+            "&c=%1,1;&d=c[#,$];~c;d", "&c=%1,1;&d=c{#,$,0};~d;1", "&c=%1,1;&d=c{#,0,$};~d;1",
+            "&c=%1,1;&d=c{0,#,$};~d;1", "&c=@1;&d=c{#,$};~d;1", "B(#,$,1,1)", "B(#,1,1,$)", "B(1,#,$,1)", "B(1,1,#,$)",
+            "B(#,B(1,1,1,$),1,1)"};
         for (String form : forms) {
             foundFirst(form.replace("#", "(1/m)").replace("$", "a[n]"), Trial.DIVIDED);
             foundFirst(form.replace("#", "a[n]").replace("$", "(1/m)"), Trial.OUTSIDE);
@@ -134,8 +135,10 @@ public final class TermsRunningTest {
 
     private static void newRows() {
         Trial.sentence("@ makes a row of so many zeros");
-        new Trial().good("A(n0)1=@n", 1).arguments(0).givesRow('A').arguments(1).givesRow('A', 0).arguments(2).givesRow('A', 0, 0);
-        new Trial().good("A(n0)1=@n", 1).arguments(39).givesRow('A', new long[39]).arguments(40).givesRow('A', new long[40]);
+        int[] sizes = {0, 1, 2, 39, 40};
+        for (int size : sizes) {
+            new Trial().good("A(n0)1=@n", 1).arguments(size).givesRow('A', new long[size]);
+        }
         // The second row takes the room of the first, whose numbers must not show.
         new Trial().good("A()1=&a=@3;&b=a{1,7};~b;@3", 1).givesRow('A', 0, 0, 0).givesRow('A', 0, 0, 0);
     }
@@ -170,8 +173,10 @@ public final class TermsRunningTest {
         t.arguments(0, LEAST).givesRow('A', LEAST, 0, 7).arguments(1, MOST).givesRow('A', 5, MOST, 7).arguments(2, 0)
                 .givesRow('A', 5, 0, 0);
         t = new Trial().good("A(i0,j0,n0)2=&a=%2,3;&b=a{0,0,1};&c=b{1,2,6};c{i,j,n}", 1);
-        t.arguments(0, 0, 9).givesTable('A', 2, 3, 9, 0, 0, 0, 0, 6).arguments(0, 2, 9).givesTable('A', 2, 3, 1, 0, 9, 0, 0, 6)
-                .arguments(1, 0, 9).givesTable('A', 2, 3, 1, 0, 0, 9, 0, 6).arguments(1, 2, 9).givesTable('A', 2, 3, 1, 0, 0, 0, 0, 9);
+        t.arguments(0, 0, 9).givesTable('A', 2, 3, 9, 0, 0, 0, 0, 6);
+        t.arguments(0, 2, 9).givesTable('A', 2, 3, 1, 0, 9, 0, 0, 6);
+        t.arguments(1, 0, 9).givesTable('A', 2, 3, 1, 0, 0, 9, 0, 6);
+        t.arguments(1, 2, 9).givesTable('A', 2, 3, 1, 0, 0, 0, 0, 9);
         new Trial().good("A()1=&a=@40;&b=a{39,1};b{0,2}", 1).gives('A', 1);
         new Trial().good("A()1=&a=@1;&b=a{0,1};b{0,2}", 1).givesRow('A', 2).counted(10, 1, 1, 2);
     }
@@ -201,9 +206,12 @@ public final class TermsRunningTest {
     private static void copies() {
         Trial.sentence("$ makes another array with the same numbers");
         new Trial().good("A()1=" + ROW + "&d=$c;~c;d", 1).givesRow('A', 5, 0, 7).counted(15, 2, 2, 2);
-        new Trial().good("A()2=&a=%2,2;&b=a{0,1,5};&c=$b;~b;c{1,0,6}", 1).givesTable('A', 2, 2, 0, 5, 6, 0).counted(16, 2, 2, 2);
-        new Trial().good("A(n0)1=&a=@n;&b=$a;~a;b", 1).givesRow('A').counted(7, 2, 2, 0).arguments(40).givesRow('A', new long[40]);
-        new Trial().good("A(m0,n0)2=&a=%m,n;&b=$a;~a;b", 1).arguments(0, 40).givesTable('A', 0, 40).arguments(40, 0).givesTable('A', 40, 0);
+        new Trial().good("A()2=&a=%2,2;&b=a{0,1,5};&c=$b;~b;c{1,0,6}", 1).givesTable('A', 2, 2, 0, 5, 6, 0)
+                .counted(16, 2, 2, 2);
+        new Trial().good("A(n0)1=&a=@n;&b=$a;~a;b", 1).arguments(0).givesRow('A').counted(7, 2, 2, 0)
+                .arguments(40).givesRow('A', new long[40]).counted(7, 2, 2, 0);
+        new Trial().good("A(m0,n0)2=&a=%m,n;&b=$a;~a;b", 1).arguments(0, 40).givesTable('A', 0, 40)
+                .arguments(40, 0).givesTable('A', 40, 0).arguments(5, 8).givesTable('A', 5, 8, new long[40]);
     }
 
     private static void givenUp() {
@@ -216,7 +224,8 @@ public final class TermsRunningTest {
 
     private static void boundToParameters() {
         Trial.sentence("A function's parts are bound to its parameters");
-        new Trial().good("A(d0,c0,b0,a0)0=((a*1000)+((b*100)+((c*10)+d)))", 1).good("B()0=A(4,3,2,1)", 2).givesNumber('B', 1234);
+        new Trial().good("A(d0,c0,b0,a0)0=((a*1000)+((b*100)+((c*10)+d)))", 1).good("B()0=A(4,3,2,1)", 2)
+                .givesNumber('B', 1234);
         new Trial().good("A()0=7", 1).good("B()0=A()", 2).givesNumber('B', 7);
         // A callee's variables are its own, also where they have the caller's names.
         new Trial().good("A(n0)0=&m=9;(n+m)", 1).good("B(m0,n0)0=((A(1)*100)+((m*10)+n))", 2).arguments(3, 4)
@@ -253,7 +262,8 @@ public final class TermsRunningTest {
     }
 
     private static void indexesOfRows() {
-        Trial.sentence("by v[..] IndexOutOfBoundsException if an index isn't below its size, or is below 0");
+        Trial.sentence("by v[..] and v{..} IndexOutOfBoundsException if an index isn't below its size, or is below 0",
+                "v[..] of a row");
         long[] outside = {-1, 3, 4, -3, 40, FAR, FAR + 1, -FAR, LEAST, MOST};
         for (long i : outside) {
             Trial.failure(ROW + "&d=c[m];~c;d", i, 0, Trial.OUTSIDE, 14);
@@ -265,9 +275,11 @@ public final class TermsRunningTest {
     }
 
     private static void indexesOfTables() {
-        Trial.sentence("by v[..] of a table: the row's index and the column's, each against its size");
-        long[][] outside = {{-1, 0}, {2, 0}, {0, -1}, {0, 3}, {1, 3}, {1, -1}, {-1, 3}, {2, -3}, {2, 3}, {0, 5}, {FAR, 0}, {0, FAR},
-            {LEAST, 0}, {0, LEAST}, {MOST, MOST}, {-1, 5}};
+        Trial.sentence("by v[..] and v{..} IndexOutOfBoundsException if an index isn't below its size, or is below 0",
+                "v[..] of a table");
+        // Some of these would be inside if the table were one long row.
+        long[][] outside = {{-1, 0}, {2, 0}, {0, -1}, {0, 3}, {1, 3}, {1, -1}, {-1, 3}, {2, -3}, {2, 3}, {0, 5}, {-1, 5},
+            {FAR, 0}, {0, FAR}, {LEAST, 0}, {0, LEAST}, {MOST, MOST}};
         for (long[] at : outside) {
             Trial.failure("&t=%2,3;&r=t[m,n];~t;r", at[0], at[1], Trial.OUTSIDE, 8);
         }
@@ -276,7 +288,7 @@ public final class TermsRunningTest {
     }
 
     private static void indexesOfTheEmpty() {
-        Trial.sentence("an index isn't below its size: of what is empty");
+        Trial.sentence("if an index isn't below its size", "of what is empty");
         Trial.failure("&a=@0;&b=a[m];~a;b", 0, 0, Trial.OUTSIDE, 6);
         Trial.failure("&a=@0;&b=a{m,1};~b;1", 0, 0, Trial.OUTSIDE, 7);
         int[][] sizes = {{0, 0}, {0, 5}, {5, 0}};
@@ -287,7 +299,8 @@ public final class TermsRunningTest {
     }
 
     private static void updatesOutside() {
-        Trial.sentence("by v{..} IndexOutOfBoundsException if an index isn't below its size, or is below 0");
+        Trial.sentence("by v[..] and v{..} IndexOutOfBoundsException if an index isn't below its size, or is below 0",
+                "v{..}");
         long[] outside = {-1, 2, 3, FAR, -FAR, LEAST, MOST};
         for (long at : outside) {
             Trial.failure("&a=@2;&b=a{m,n};~b;0", at, 1, Trial.OUTSIDE, 7);
@@ -320,7 +333,8 @@ public final class TermsRunningTest {
         for (String last : tooMany) {
             afterThreeHundredNinetySeven(last).fails('D', Trial.TOO_MUCH).noResult();
         }
-        afterThreeHundredNinetySeven("(1+C(n))").fails('D', Trial.TOO_MUCH).counted(400, 0, 0, 0).givesNumber('C', 0).counted(1, 0, 0, 0);
+        afterThreeHundredNinetySeven("(1+C(n))").fails('D', Trial.TOO_MUCH).counted(400, 0, 0, 0)
+                .givesNumber('C', 0).counted(1, 0, 0, 0);
         afterThreeHundredNinetySeven("&a=@n;~a;5").fails('D', Trial.TOO_MUCH).counted(400, 1, 1, 0)
                 .arguments(-1).fails('D', Trial.BELOW_0).counted(400, 0, 0, 0);
     }
@@ -341,15 +355,20 @@ public final class TermsRunningTest {
     }
 
     private static void callsBesideOneAnother() {
-        Trial.sentence("calls in one another: not those one after another, nor among the parts of a call");
+        Trial.sentence("calls would lie nine in one another",
+                "not those one after another, nor among the parts of a call");
         new Trial().good("A(n0)0=(n+1)", 1).good("B()0=A(A(A(A(A(A(A(0)))))))", 2).good("C()0=A(A(A(A(A(A(A(B())))))))", 3)
                 .givesNumber('C', 14);
         new Trial().good("A(n0)0=?n(A((n-1))|1)", 1).good("B(n0)0=(A(n)+(A(n)+A(n)))", 2).arguments(6).givesNumber('B', 3)
                 .arguments(7).fails('B', Trial.TOO_MUCH);
+        // 73 calls with the first, of which no more than three lie in one another.
+        String eight = "(((*+*)+(*+*))+((*+*)+(*+*)))";
+        new Trial().good("A(n0)0=n", 1).good("B(n0)0=" + eight.replace("*", "A(n)"), 2)
+                .good("C()0=" + eight.replace("*", "B(1)"), 3).givesNumber('C', 64).counted(7 + 8 * (2 + 31), 0, 0, 0);
     }
 
     private static void deepestNesting() {
-        Trial.sentence("at most 8 deep, in calls that lie at most 8 in one another");
+        Trial.sentence("Expressions lie at most 8 deep in one another", "in calls that lie 8 in one another");
         new Trial().good("E(n0)0=n", 1).good("F()0=E(E(E(E(E(E(E(F())))))))", 2).fails('F', Trial.TOO_MUCH)
                 .counted(64, 0, 0, 0).arguments(4).givesNumber('E', 4);
         new Trial().good("E(n0)0=n", 1).good("F(n0)0=?n(E(E(E(E(F((n-1))))))|3)", 2).arguments(7).givesNumber('F', 3)
@@ -399,7 +418,7 @@ public final class TermsRunningTest {
     }
 
     private static void ninthCopy() {
-        Trial.sentence("a ninth array would be there: $ makes another array");
+        Trial.sentence("a ninth array would be there", "$ makes another array");
         Trial t = new Trial().good("A(n0)0=?n(&a=@1;&b=$a;&c=A((n-1));~a;~b;c|0)", 1).good("B(n0)0=&a=@1;&b=A(n);~a;b", 2);
         t.arguments(4).givesNumber('A', 0);
         Trial.due("arrays there, four of them copies", t.x.counted(2), 8);
@@ -410,18 +429,19 @@ public final class TermsRunningTest {
     }
 
     private static void roomOfWhatWasGivenUp() {
-        Trial.sentence("a ninth array would be there: what is given up by ~ isn't there any more");
+        Trial.sentence("a ninth array would be there", "what is given up by ~ isn't there any more");
         new Trial().good("A(n0)1=?n(&a=A((n-1));&b=@1;~a;b|@0)", 1).arguments(7).givesRow('A', 0).counted(88, 8, 2, 0);
         // Twelve are made, but never more than eight are there.
-        Trial t = new Trial().good("A(a1,b1,c1,d1)0=~a;~b;~c;~d;1", 1).good("B(a1,b1,c1,d1)0=(A(@1,@1,@1,@1)+(A(@1,@1,@1,@1)+A(a,b,c,d)))", 2)
+        Trial t = new Trial().good("A(a1,b1,c1,d1)0=~a;~b;~c;~d;1", 1)
+                .good("B(a1,b1,c1,d1)0=(A(@1,@1,@1,@1)+(A(@1,@1,@1,@1)+A(a,b,c,d)))", 2)
                 .good("C()0=B(@1,@1,@1,@1)", 3).givesNumber('C', 3);
         Trial.due("arrays made", t.x.counted(1), 12);
         Trial.due("arrays there", t.x.counted(2), 8);
         // An update makes none.
         new Trial().good("A(a1,n0)1=?n(A(a{0,n},(n-1))|a)", 1).good("B()1=A(@1,6)", 2).givesRow('B', 1).counted(61, 1, 1, 6);
         // Nor does the result of an earlier run take room.
-        Trial r = new Trial().good("A()1=@3", 1).good("B(n0)0=?n(&a=@1;&b=@1;&c=B((n-1));~a;~b;c|0)", 2).gives('A', 1).arguments(4);
-        r.givesNumber('B', 0);
+        Trial r = new Trial().good("A()1=@3", 1).good("B(n0)0=?n(&a=@1;&b=@1;&c=B((n-1));~a;~b;c|0)", 2);
+        r.gives('A', 1).arguments(4).givesNumber('B', 0);
         Trial.due("arrays there", r.x.counted(2), 8);
     }
 

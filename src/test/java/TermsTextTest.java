@@ -27,7 +27,7 @@ public final class TermsTextTest {
     }
 
     private static void types() {
-        Trial.sentence("TYPES are 0 NUMBER, 1 ROW, 2 TABLE");
+        Trial.sentence("TYPES are 0 NUMBER", "and 1 ROW, 2 TABLE");
         new Trial().illAt("A(a!/)0=1").good("A(a0)0=a", 1).good("B(a1)1=a", 2).good("C(a2)2=a", 3).illAt("D(a!3)0=1");
         new Trial().illAt("A()!/=1").good("A()0=1", 1).good("B()1=@1", 2).good("C()2=%1,1", 3).illAt("D()!3=1");
         Trial.allIll("A(a!)0=1", "A(a0!0)0=1", "A()!=1", "A()0!0=1");
@@ -104,7 +104,8 @@ public final class TermsTextTest {
     }
 
     private static void headSigns() {
-        Trial.sentence("its name, ( , parameters, ) , the result's type, = , an EXPRESSION");
+        Trial.sentence("its name, ( , none to four PARAMETERS with , between them, each a variable and its type, ) , "
+                + "the result's type, = , an EXPRESSION", "the signs");
         Trial.allIll("A!)0=1", "A!0=1", "A!A()0=1", "A(!(0=1", "A(a0!=1", "A()!)0=1", "A()0!1", "A()0!(1)",
                 "A()0=!=1", "A()0=!)", "A()0=1!;", "A()0=1!=");
     }
@@ -189,8 +190,8 @@ public final class TermsTextTest {
 
     private static void partsOfACall() {
         Trial.sentence("a function's name, ( , none to four e with , between them, )");
-        new Trial().notIll("A()0=B()").notIll("A()0=B(1)").notIll("A()0=B(1,2)").notIll("A()0=B(1,2,3)").notIll("A()0=B(1,2,3,4)")
-                .illAt("A()0=B(1,2,3,4!,5)");
+        new Trial().notIll("A()0=B()").notIll("A()0=B(1)").notIll("A()0=B(1,2)").notIll("A()0=B(1,2,3)")
+                .notIll("A()0=B(1,2,3,4)").illAt("A()0=B(1,2,3,4!,5)");
         Trial.allIll("A()0=B!", "A()0=B!a", "A()0=B!)", "A()0=B(!,)", "A()0=B(!,1)", "A()0=B(1,!)", "A()0=B(1,!,2)",
                 "A()0=B(1!;2)", "A()0=B(1!]", "A()0=B()!()", "A()0=B![1]");
     }
@@ -201,8 +202,10 @@ public final class TermsTextTest {
         Trial.allIll("A(n0)0=(1+(1+(1+(1+(1+(1+(1+(!n+1))))))))", "A(n0)0=((((((((!n", "A(n0)0=((((((((!(((");
         new Trial().good("A()0=&a=1;&b=1;&c=1;&d=1;&e=1;&f=1;&g=1;g", 1)
                 .illAt("B()0=&a=1;&b=1;&c=1;&d=1;&e=1;&f=1;&g=1;&h=!1;h");
-        new Trial().good("A()0=A()", 1).good("B(n0)0=B(B(B(B(B(B(B(A())))))))", 2).illAt("C(n0)0=C(C(C(C(C(C(C(C(!1))))))))");
-        new Trial().illAt("A(a1)1=@@@@@@@@!1").illAt("A(a1)1=@@@@@@@a[!0]").illAt("A(a1)1=@@@@@@@~a;!1").wrongAt("A(a1)1=@@@@@@!@#a");
+        new Trial().good("A()0=A()", 1).good("B(n0)0=B(B(B(B(B(B(B(A())))))))", 2)
+                .illAt("C(n0)0=C(C(C(C(C(C(C(C(!1))))))))");
+        Trial.allIll("A(a1)1=@@@@@@@@!1", "A(a1)1=@@@@@@@a[!0]", "A(a1)1=@@@@@@@~a;!1");
+        new Trial().wrongAt("A(a1)1=@@@@@@!@#a");
         // Behind the deepest part the next begins where the first did.
         new Trial().good("A()0=(((((((1+1)+1)+1)+1)+1)+1)+1)", 1).givesNumber('A', 8);
         new Trial().good("A()0=((((((1+1)+1)+1)+1)+1)+(1+(1+(1+(1+(1+(1+1)))))))", 1).givesNumber('A', 13);

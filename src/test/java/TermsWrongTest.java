@@ -13,6 +13,7 @@ public final class TermsWrongTest {
         unboundVariables();
         lostVariables();
         typesOfVariables();
+        digits();
         bareVariables();
         operations();
         choiceOfANumber();
@@ -25,6 +26,7 @@ public final class TermsWrongTest {
         sizesAreNumbers();
         readingsAndUpdates();
         updateUsesUp();
+        howMany();
         copyStaysOwned();
         givingUp();
         callOfNothing();
@@ -35,7 +37,8 @@ public final class TermsWrongTest {
 
     private static void nameDefinedAlready() {
         Trial.sentence("its name, if it is defined already");
-        Trial t = new Trial().good("A()0=1", 1).wrongAt("!A()0=1").wrongAt("!A(a0,a0)0=n").wrongAt("!A()1=1").wrongAt("!A(a1)0=1");
+        Trial t = new Trial().good("A()0=1", 1).wrongAt("!A()0=1").wrongAt("!A(a0,a0)0=n").wrongAt("!A()1=1")
+                .wrongAt("!A(a1)0=1");
         t.good("B()0=1", 2).wrongAt("!B()0=1").wrongAt("!A()0=B()").good("H()0=1", 3).wrongAt("!H()0=1");
         t.x.clear();
         t.good("A()0=1", 1).good("H()0=1", 2).wrongAt("!A()0=1");
@@ -129,6 +132,12 @@ public final class TermsWrongTest {
                 "A(a1)0=~a;1", "A(a2)0=~a;1");
     }
 
+    private static void digits() {
+        Trial.sentence("digits: a number");
+        Trial.allWrong("A()1=!1", "A()2=!1", "A(a1)1=A(!1)", "A(a2)2=A(!0)", "A()1=!?1(1|@1)");
+        Trial.allGood("A()0=1", "A()0=0000", "A(n0)0=A(1)");
+    }
+
     private static void bareVariables() {
         Trial.sentence("v: is of its type; an array's is used up");
         Trial.allGood("A(n0)0=(n+(n+n))", "A(a1)1=a", "A(a2)2=a");
@@ -161,7 +170,8 @@ public final class TermsWrongTest {
     }
 
     private static void choiceOfOneType() {
-        Trial.sentence("they must be of one type, which it has, otherwise it is WRONG at the ?");
+        Trial.sentence("they must be of one type, which it has, and leave the same owned; otherwise it is WRONG at the "
+                + "?", "the type");
         Trial.allWrong("A()0=!?1(2|@3)", "A()1=!?1(2|@3)", "A()0=!?1(@3|2)", "A()1=!?1(@3|%1,1)", "A()2=!?1(@3|%1,1)",
                 "A()0=(1+!?1(@3|2))", "A()0=(1+!?1(@1|@2))", "A()0=?1(1|!?1(1|@1))", "A()0=!?1(@3|@2)",
                 "A()0=!?1(1|?1(@1|@2))");
@@ -205,7 +215,8 @@ public final class TermsWrongTest {
     }
 
     private static void readingsAndUpdates() {
-        Trial.sentence("v[e]: numbers, then v, a row; v[e,e] a table: a number. v{e,e}: numbers, then v, a row; v{e,e,e} a table");
+        Trial.sentence("v[e]: numbers, then v, a row; v[e,e] a table: a number. "
+                + "v{e,e}: numbers, then v, a row; v{e,e,e} a table");
         Trial.allWrong("A(a1)0=a[!@1]", "A(a2)0=a[1,!@1]", "A(a2)0=a[!@1,1]", "A(a1)1=a{!@1,1}", "A(a1)1=a{1,!@1}",
                 "A(a2)2=a{1,1,!@1}", "A(a1)1=!a[0]", "A(a2)2=!a[0,0]", "A(a1)0=!a{0,0}", "A(a1)2=!a{0,0}",
                 "A(a2)0=!a{0,0,0}", "A(a2)1=!a{0,0,0}", "A(a1)1=a{0,!a}", "A(a1)0=a[!a]");
@@ -216,6 +227,13 @@ public final class TermsWrongTest {
         Trial.allWrong("A(a1)1=&b=a{0,1};~b;!a", "A(a2)2=&b=a{0,0,1};&c=!a{0,0,1};~b;c", "A(a1)0=&!b=a{0,1};1",
                 "A(a1)0=&b=a{0,1};(#b+#!a)");
         Trial.allGood("A(a1)1=&b=a{0,1};b{1,1}", "A(a2)2=&b=a{0,0,1};b{0,0,2}");
+    }
+
+    private static void howMany() {
+        Trial.sentence("#v: v is an array's, a number. ^v: v is a table's, a number");
+        Trial.allWrong("A(a0)0=#!a", "A(a0)0=^!a", "A(a1)0=^!a", "A(a1)1=!#a", "A(a2)2=!#a", "A(a2)2=!^a", "A(!a1)0=#a",
+                "A(!a2)0=^a");
+        Trial.allGood("A(a1)0=(#a+~a;0)", "A(a2)0=(#a+~a;0)", "A(a2)0=(^a+~a;0)", "A(a2)2=a{#a,^a,(#a+^a)}");
     }
 
     private static void copyStaysOwned() {
@@ -234,7 +252,8 @@ public final class TermsWrongTest {
 
     private static void callOfNothing() {
         Trial.sentence("A function's name: WRONG at it if it isn't defined (nor the one that is looked at)");
-        Trial t = new Trial().wrongAt("A()0=!B()").wrongAt("A()0=!B(n)").wrongAt("A()0=&a=!B();n").good("A()0=A()", 1).good("B()0=A()", 2);
+        Trial t = new Trial().wrongAt("A()0=!B()").wrongAt("A()0=!B(n)").wrongAt("A()0=&a=!B();n")
+                .good("A()0=A()", 1).good("B()0=A()", 2);
         t.good("C(n0)0=?n((A()+C(B()))|0)", 3).wrongAt("D()0=!E()").wrongAt("D()0=(A()+!E())").wrongAt("!A()0=E()");
         t.x.clear();
         t.wrongAt("D()0=!A()").wrongAt("D()0=!C(1)").good("D()0=D()", 1);
@@ -243,8 +262,9 @@ public final class TermsWrongTest {
     private static void numberOfParts() {
         Trial.sentence("or has another number of parameters");
         Trial t = new Trial().good("A()0=1", 1).good("B(a0)0=1", 2).good("C(a0,b0)0=1", 3).good("D(a0,b0,c0,d0)0=1", 4);
-        t.wrongAt("E()0=!A(1)").wrongAt("E()0=!A(n)").wrongAt("E()0=!B()").wrongAt("E()0=!B(1,2)").wrongAt("E()0=!C(1)").wrongAt("E()0=!C(1,2,n)")
-                .wrongAt("E()0=!D(1,2,3)").wrongAt("E()0=!D()").good("E()0=(A()+(B(1)+(C(1,2)+D(1,2,3,4))))", 5);
+        t.wrongAt("E()0=!A(1)").wrongAt("E()0=!A(n)").wrongAt("E()0=!B()").wrongAt("E()0=!B(1,2)").wrongAt("E()0=!C(1)")
+                .wrongAt("E()0=!C(1,2,n)").wrongAt("E()0=!D(1,2,3)").wrongAt("E()0=!D()")
+                .good("E()0=(A()+(B(1)+(C(1,2)+D(1,2,3,4))))", 5);
         // The one that is looked at has as many as it says.
         new Trial().wrongAt("A(n0)0=!A()").wrongAt("A(n0)0=!A(n,n)").wrongAt("A()0=!A(n)").good("A(n0)0=A(n)", 1);
     }
@@ -253,9 +273,11 @@ public final class TermsWrongTest {
         Trial.sentence("then its parts, of the parameters' types; it has the result's type");
         Trial t = new Trial().good("A(n0,a1,t2)1=~t;a{n,0}", 1);
         t.wrongAt("B()1=A(!@1,n,n)").wrongAt("B()1=A(!%1,1,n,n)").wrongAt("B()1=A(1,!2,n)").wrongAt("B()1=A(1,!%1,1,n)")
-                .wrongAt("B()1=A(1,@1,@!n)").wrongAt("B()1=A(1,@1,!@1)").wrongAt("B()1=A(1,@1,!1)").wrongAt("B()0=!A(1,@1,%1,1)")
+                .wrongAt("B()1=A(1,@1,@!n)").wrongAt("B()1=A(1,@1,!@1)").wrongAt("B()1=A(1,@1,!1)")
+                .wrongAt("B()0=!A(1,@1,%1,1)")
                 .wrongAt("B()2=!A(1,@1,%1,1)").wrongAt("B(a1)1=A(1,a,?#!a(%1,1|%2,2))").wrongAt("B(!a1)1=A(#a,$a,%1,1)");
-        t.good("B(a1)1=A(#a,a,%1,1)", 2).good("C(t2)1=A(^t,@#t,t)", 3).wrongAt("D(a1)1=B(B(B(!1)))").good("D()1=B(B(@1))", 4);
+        t.good("B(a1)1=A(#a,a,%1,1)", 2).good("C(t2)1=A(^t,@#t,t)", 3).wrongAt("D(a1)1=B(B(B(!1)))")
+                .good("D()1=B(B(@1))", 4);
         Trial.allWrong("A(n0)0=A(!@n)", "A(n0)1=(1+!A(n))", "A(a1)1=A(!1)", "A(n0)1=A(!A(n))");
     }
 }

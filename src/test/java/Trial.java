@@ -19,7 +19,12 @@ final class Trial {
 
     /** The words of the document that the calls from here on try. */
     static void sentence(String words) {
-        sentence = words;
+        sentence = "\"" + words + "\": ";
+    }
+
+    /** The same, of which only one side is tried. */
+    static void sentence(String words, String side) {
+        sentence = "\"" + words + "\" (" + side + "): ";
     }
 
     static void due(String what, long got, long want) {
@@ -40,7 +45,7 @@ final class Trial {
 
     private static void report(String fault) {
         wrong++;
-        System.out.println(sentence.isEmpty() ? fault : "\"" + sentence + "\": " + fault);
+        System.out.println(sentence + fault);
     }
 
     /** Ends the test, with exit code 1 if an answer was not as due. */
