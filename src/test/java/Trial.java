@@ -37,6 +37,12 @@ final class Trial {
         due(what, got ? 1 : 0, want ? 1 : 0);
     }
 
+    static void due(String what, String got, String want) {
+        if (!got.equals(want)) {
+            report(what + " answered " + got + ", due is " + want);
+        }
+    }
+
     static void dueThrown(String what, String got, String want) {
         if (!got.equals(want)) {
             report(what + " threw " + got + ", due is " + want);
